@@ -1,4 +1,8 @@
+import java.lang.reflect.Method;
+import java.lang.reflect.Modifier;
 import java.util.ArrayList;
+import java.util.Arrays;
+import java.util.Comparator;
 import java.util.List;
 import java.util.Random;
 
@@ -9,8 +13,8 @@ import java.util.Random;
 public final class RandomRunsTest {
 
     private static final int MOST_CALLS = 512;
-    private static final String[] THEMES = {"laws", "tongues", "matches", "pairs", "land", "sheets", "all"};
-    private static final int[] RUNS = {60, 25, 25, 40, 150, 80, 20};
+    private static final String[] THEMES = {"laws", "tongues", "matches", "pairs", "land", "sheets", "all", "wild"};
+    private static final int[] RUNS = {60, 20, 25, 40, 120, 80, 40, 60};
 
     private final Random random;
     private final DaughterTongues is = new DaughterTongues();
@@ -81,6 +85,9 @@ public final class RandomRunsTest {
                 break;
             case "sheets":
                 playSheets();
+                break;
+            case "wild":
+                playWild();
                 break;
             default:
                 playAll();
@@ -568,6 +575,48 @@ public final class RandomRunsTest {
             } else {
                 callList();
             }
+        }
+    }
+
+    /** Any method with any arguments, also those that no other theme would put together. */
+    private void playWild() {
+        Method[] methods = PlainTongues.class.getDeclaredMethods();
+        List<Method> face = new ArrayList<>();
+        for (Method method : methods) {
+            if (!Modifier.isPrivate(method.getModifiers()) && !Modifier.isStatic(method.getModifiers())) {
+                face.add(method);
+            }
+        }
+        face.sort(Comparator.comparing(Method::getName));
+        while (goesOn()) {
+            if (chance(15)) {
+                callLaw();
+            } else if (chance(10)) {
+                callTongue();
+            } else {
+                callWild(face.get(below(face.size())));
+            }
+        }
+    }
+
+    private void callWild(Method plain) {
+        Class<?>[] types = plain.getParameterTypes();
+        Object[] arguments = new Object[types.length];
+        for (int i = 0; i < types.length; i++) {
+            if (types[i] == boolean.class) {
+                arguments[i] = chance(50);
+            } else if (types[i] == long.class) {
+                arguments[i] = random.nextLong();
+            } else {
+                arguments[i] = chance(70) ? below(4) : chance(60) ? below(66) - 2 : edge();
+            }
+        }
+        try {
+            Method real = DaughterTongues.class.getMethod(plain.getName(), types);
+            String call = plain.getName() + Arrays.toString(arguments);
+            check(call, (int) real.invoke(is, arguments), (int) plain.invoke(due, arguments));
+        } catch (ReflectiveOperationException e) {
+            throw new IllegalStateException(e);
         }
     }
 
