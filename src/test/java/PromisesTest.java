@@ -487,7 +487,17 @@ public final class PromisesTest {
         // above all are a: only the laws of this TONGUE change places
         makeTongue(1, 3, 2);
         due(w("a"), x.order(3, 0));
-        due(BEYOND, x.order(0, 1));
+        x = new DaughterTongues();
+        readLaws("a>b", "b>a", "a>c");
+        makeTongue(-1, 0);
+        makeTongue(0, 1, 2);
+        due(w("a"), x.order(1, 0));
+        makeTongue(-1, 0, 2);
+        makeTongue(0, 0, 2);
+        due(w("a"), x.order(2, 0));
+        // above there is no a left
+        due(NONE, x.order(3, 0));
+        due(BEYOND, x.order(0, 0));
         due(BEYOND, x.order(0, -1));
         due(BEYOND, x.order(4, 0));
         due(BEYOND, x.order(-1, 0));
@@ -902,6 +912,34 @@ public final class PromisesTest {
         due(1, x.leans(0, 0));
         // the LAW is there again
         due(w("ea"), x.mother(0, 0, 0));
+        leansAlone();
+        leansInDaughter();
+    }
+
+    /** MOTHERS without a LAW alone, also where another TONGUE hasn't the LAW. */
+    private void leansAlone() {
+        x = new DaughterTongues();
+        readLaws("a>b");
+        makeTongue(-1, 0);
+        makeTongue(-1);
+        x.match();
+        x.find(0, 0, w("a"), 0);
+        x.find(0, 1, w("a"), 0);
+        due(1, x.leans(0, 0));
+        due(0, x.mothers(0, 0));
+    }
+
+    /** Other LAWS of the TONGUE above hold on. */
+    private void leansInDaughter() {
+        x = new DaughterTongues();
+        readLaws("d>b", "e>f", "b>c");
+        makeTongue(-1, 0, 1);
+        makeTongue(0, 2);
+        x.match();
+        x.find(0, 1, w("c"), 0);
+        due(0, x.leans(1, 0));
+        due(1, x.leans(0, 0));
+        due(1, x.leans(2, 0));
     }
 
     // ---- pairs
@@ -1002,13 +1040,23 @@ public final class PromisesTest {
         dueOnly("afa", "aea", "f", 5, 4, 1);
         dueOnly("abbb", "ab", "ab", 1, -1, 2);
         dueOnly("fba", "fca", "db", 1, 2, 6);
+        dueOnly("ba", "ca", "be", 1, 2, 10);
         due(0, x.told(9));
+        x.unpair();
+        x.pair(w("e"), w("f"));
+        x.pair(w("f"), w("a"));
+        due(2, x.fewest());
+        dueSimple(0, 5, 0, 0);
+        dueSimple(1, 4, 5, 0);
     }
 
     private void proof() {
         due(BEYOND, x.proof(0));
         x.pair(w("abc"), w("abc"));
         due(w("abc"), x.proof(0));
+        x.unpair();
+        x.pair(w("ab"), w("ac"));
+        due(w("ac"), x.proof(0));
         x.unpair();
         x.pair(w("abc"), w("cb"));
         x.pair(w("d"), w("d"));
@@ -1093,7 +1141,12 @@ public final class PromisesTest {
             x.road(p, p + 1, 9);
         }
         due(62, x.comes(0, 7));
-        due(BEYOND, x.comes(2, 0));
+        x.road(0, 1, 1);
+        x.road(0, 2, 0);
+        x.road(1, 2, 2);
+        x.wave(0, 7, 100);
+        due(148, x.comes(2, 0));
+        due(BEYOND, x.comes(3, 0));
         due(BEYOND, x.comes(-1, 0));
         due(BEYOND, x.comes(0, 8));
         due(BEYOND, x.comes(0, -1));
@@ -1204,6 +1257,11 @@ public final class PromisesTest {
         x.wave(0, 5, 995);
         due(995, x.parted(5, 6));
         due(NONE, x.parted(6, 7));
+        // the YEAR 1000 is none
+        x.road(5, 6, 5);
+        due(NONE, x.parted(6, 7));
+        x.road(5, 6, 4);
+        due(999, x.parted(6, 7));
         // a comes back where both came in one YEAR
         x.wave(0, 7, 40);
         x.wave(1, 7, 40);
