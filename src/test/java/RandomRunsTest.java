@@ -63,7 +63,7 @@ public final class RandomRunsTest {
     }
 
     private boolean goesOn() {
-        return !isWrong && calls.size() < MOST_CALLS - 12;
+        return !isWrong && calls.size() < MOST_CALLS - 40;
     }
 
     private void playTheme(String theme) {
