@@ -728,6 +728,68 @@ final class MatchBoundaries extends Boundaries {
         due(0, x.leans(0, 2));
     }
 
+    @Boundary(promise = 29, says = "How many MATCHES would have other MOTHERS")
+    void leansCountsAMatchOnce() {
+        laws("a>b");
+        tongue(-1, 0);
+        matches(3);
+        // three STEMS are no MOTHERS of the first one without it, seven of the next one, all of them longer
+        x.find(0, 0, w("bb"), 0);
+        x.find(1, 0, w("bbb"), 0);
+        x.find(2, 0, w("c"), 0);
+        due(4, x.mothers(0, 0));
+        due(8, x.mothers(1, 0));
+        due(2, x.leans(0, 0));
+        x.find(2, 0, w("bbbbb"), 1);
+        due(3, x.leans(0, 1));
+    }
+
+    @Boundary(promise = 29, says = "How many MATCHES would have other MOTHERS")
+    void leansWithAllTonguesAndMatches() {
+        laws("a>b", "c>d");
+        for (int t = 0; t < 8; t++) {
+            tongue(-1, t % 2);
+        }
+        matches(10);
+        // in the last TONGUES of the first and last MATCH, in the first one of all others
+        x.find(0, 6, w("b"), 0);
+        x.find(0, 7, w("a"), 0);
+        x.find(9, 6, w("b"), 0);
+        x.find(9, 7, w("b"), 0);
+        for (int m = 1; m < 9; m++) {
+            x.find(m, 0, w("c"), 0);
+        }
+        due(1, x.mothers(0, 0));
+        due(1, x.mothers(9, 0));
+        due(1, x.leans(0, 0));
+        due(0, x.leans(1, 0));
+        for (int t = 0; t < 8; t++) {
+            x.find(9, t, t % 2 == 0 ? w("b") : w("a"), 1);
+        }
+        due(2, x.leans(0, 1));
+        due(0, x.leans(1, 1));
+    }
+
+    @Boundary(promise = 29, says = "would have other MOTHERS, as known in a YEAR")
+    void leansAsksAllTongues() {
+        laws("a>b");
+        tongue(-1, 0);
+        tongue(-1);
+        matches(1);
+        // without it a would do in the first TONGUE, but not in the second one
+        x.find(0, 0, w("a"), 0);
+        x.find(0, 1, w("c"), 0);
+        due(0, x.leans(0, 0));
+        x.find(0, 1, w("a"), 1);
+        due(1, x.leans(0, 1));
+        // with it a does in the first TONGUE, but not in the second one
+        x.find(0, 0, w("b"), 2);
+        x.find(0, 1, w("c"), 2);
+        due(0, x.leans(0, 2));
+        x.find(0, 1, w("a"), 3);
+        due(1, x.leans(0, 3));
+    }
+
     @Boundary(promise = 29, says = "BEYOND: no such LAW, or YEAR.")
     void leansBeyond() {
         refuse(BEYOND, () -> x.leans(0, 0));

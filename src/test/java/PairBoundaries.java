@@ -90,6 +90,15 @@ final class PairBoundaries extends Boundaries {
         dueSimple(0, 0, 1, 18);
     }
 
+    @Boundary(promise = Boundary.TERMS, says = "MARKS behind (likewise)")
+    void noPlaceBehindTheLastMark() {
+        pairs("ab", "db", "fac", "fdc");
+        due(1, x.fewest());
+        // ahead of b if it is the first, ahead of c if not: no MARK tells that, and no two do
+        pairs("ab", "db", "fac", "fdc", "ac", "ac", "fab", "fab");
+        due(NONE, x.fewest());
+    }
+
     @Boundary(promise = Boundary.TERMS, says = "PAIRS (at most 6) are each of a WORD and a WORD.")
     void atMostSixPairs() {
         due(1, x.pair(0, 0));
