@@ -607,8 +607,9 @@ public final class DaughterTongues {
         static final int NO_ROW = -1;
         /** The lowest bit of each field. */
         static final int EACH = 0x249249;
-        static final int ROW_BITS = 24;
+        static final int MOST_SOUNDS = 8;
         static final int FIELD_BITS = 3;
+        static final int ROW_BITS = MOST_SOUNDS * FIELD_BITS;
         /** All that a field can hold, as a set of digits. */
         static final int ALL_DIGITS = 127;
         static final int ALL_SOUNDS = 63;
@@ -616,7 +617,7 @@ public final class DaughterTongues {
         static int rowOf(int number) {
             int row = 0;
             int rest = number;
-            for (int i = 0; i < 8 && rest > 0; i++) {
+            for (int i = 0; i < MOST_SOUNDS && rest > 0; i++) {
                 int digit = rest % 7;
                 if (digit == 0) {
                     return NO_ROW;
@@ -629,15 +630,15 @@ public final class DaughterTongues {
 
         static int numberOf(int row) {
             int number = 0;
-            for (int rest = row; rest != 0; rest >>>= FIELD_BITS) {
-                number = number * 7 + (rest & 7);
+            for (int at = 0; at < ROW_BITS && row >>> at != 0; at += FIELD_BITS) {
+                number = number * 7 + (row >>> at & 7);
             }
             return number;
         }
 
         static int lengthOf(int row) {
             int length = 0;
-            for (int rest = row; rest != 0; rest >>>= FIELD_BITS) {
+            while (length < MOST_SOUNDS && row >>> length * FIELD_BITS != 0) {
                 length++;
             }
             return length;
@@ -649,13 +650,11 @@ public final class DaughterTongues {
                 return EACH;
             }
             int fields = 0;
-            int pattern = 0;
-            for (int rest = digits; rest != 0; rest >>>= 1) {
-                if ((rest & 1) != 0) {
-                    int unlike = row ^ pattern;
+            for (int digit = 0; digit <= SOUNDS && digits >>> digit != 0; digit++) {
+                if ((digits >>> digit & 1) != 0) {
+                    int unlike = row ^ digit * EACH;
                     fields |= ~(unlike | unlike >>> 1 | unlike >>> 2);
                 }
-                pattern += EACH;
             }
             return fields & EACH;
         }
@@ -663,7 +662,7 @@ public final class DaughterTongues {
         /** Fields as bits: bit 0 for the first one. */
         static int bitsOf(int fields) {
             int bits = 0;
-            for (int i = 0; i < 8; i++) {
+            for (int i = 0; i < MOST_SOUNDS; i++) {
                 bits |= (fields >>> i * FIELD_BITS & 1) << i;
             }
             return bits;
@@ -673,8 +672,8 @@ public final class DaughterTongues {
         static int signsOf(int row, int[] signs) {
             int result = 0;
             int at = 0;
-            for (int rest = row; rest != 0; rest >>>= FIELD_BITS) {
-                int sign = signs[(rest & 7) - 1];
+            for (int i = 0; i < ROW_BITS && row >>> i != 0; i += FIELD_BITS) {
+                int sign = signs[(row >>> i & 7) - 1];
                 if (sign >= 0) {
                     result |= sign + 1 << at;
                     at += FIELD_BITS;
@@ -1372,12 +1371,16 @@ public final class DaughterTongues {
             if (shorter < 0) {
                 return false;
             }
-            int at = firstParting(row, other);
+            int at = partingBits(row, other);
             int from = row >>> at & 7;
             int to = shorter > 0 ? 0 : other >>> at & 7;
             for (int place = 0; place < PLACES; place++) {
                 change.setSimple(from, to, place, vowels);
-                if (makesOthers(rows)) {
+                int made = 0;
+                while (made < count && change.over(rows[made]) == others[made]) {
+                    made++;
+                }
+                if (made == count) {
                     keep(slot, from, to, place);
                     return true;
                 }
@@ -1394,21 +1397,12 @@ public final class DaughterTongues {
         }
 
         /** By how many bits the first field in which two rows are unlike is shifted. */
-        private static int firstParting(int row, int other) {
+        private static int partingBits(int row, int other) {
             int at = 0;
             while (at < Rows.ROW_BITS - Rows.FIELD_BITS && ((row ^ other) >>> at & 7) == 0) {
                 at += Rows.FIELD_BITS;
             }
             return at;
-        }
-
-        private boolean makesOthers(int[] rows) {
-            for (int i = 0; i < count; i++) {
-                if (change.over(rows[i]) != others[i]) {
-                    return false;
-                }
-            }
-            return true;
         }
 
         private void keep(int slot, int from, int to, int place) {

@@ -8,7 +8,9 @@ import java.nio.file.Path;
 import java.util.ArrayList;
 import java.util.Arrays;
 import java.util.List;
+import java.util.Map;
 import java.util.Set;
+import java.util.TreeMap;
 import java.util.TreeSet;
 import java.util.regex.Matcher;
 import java.util.regex.Pattern;
@@ -22,6 +24,10 @@ public final class LanguageTest {
     private static final Path SOURCE = Path.of("src/main/java/DaughterTongues.java");
     private static final Path DOCUMENT = Path.of("../shared/DOC.md");
     private static final int MOST_LINES = 60;
+    private static final int MOST_DEEP = 8;
+    /** Four or eight blanks deep; the method ends with the brace that stands as deep. */
+    private static final Pattern METHOD_HEAD =
+        Pattern.compile("( {4}| {8})(?! )(?!for |if |while |switch )[\\w\\[\\] ]*?(\\w+)\\([^)]*\\) \\{");
 
     private static int broken;
 
@@ -31,7 +37,8 @@ public final class LanguageTest {
         checkFace();
         checkClasses();
         checkWords(bare);
-        checkLengths(bare);
+        checkLoops(bare);
+        checkMethods(bare);
         expect(source.chars().allMatch(c -> c < 128), 4, "a sign that is not 1 to 127");
         System.out.println(broken == 0 ? "the rules of the language are kept" : broken + " rules are broken");
         System.exit(broken == 0 ? 0 : 1);
@@ -139,18 +146,75 @@ public final class LanguageTest {
         }
     }
 
-    /** Methods by their first line, four or eight blanks deep, up to the brace that stands as deep. */
-    private static void checkLengths(String bare) {
+    /** A counter against a bound is seen from the head of each loop. */
+    private static void checkLoops(String bare) {
+        expect(!Pattern.compile("\\bdo\\b").matcher(bare).find(), 9, "a loop whose head stands behind it");
+        Matcher head = Pattern.compile("\\b(for|while) \\((.*)\\) \\{").matcher(bare);
+        int heads = 0;
+        while (head.find()) {
+            heads++;
+            String goesOn = head.group(1).equals("for") ? head.group(2).split(";")[1] : head.group(2);
+            // what stands in brackets can't keep a loop going if the counter must be below its bound, too
+            boolean isBound = !goesOn.replaceAll("\\([^()]*\\)", "").contains("||");
+            boolean isCounted = isBound && goesOn.trim().matches("\\w+ <=? .*");
+            expect(isCounted, 9, "no counter in '" + head.group() + "'");
+        }
+        Matcher loop = Pattern.compile("\\b(for|while)\\b").matcher(bare);
+        while (loop.find()) {
+            heads--;
+        }
+        expect(heads == 0, 9, "a loop whose head is not in one line");
+    }
+
+    /** The bodies of all methods by their names; those of one name are told as one. */
+    private static Map<String, String> methodsOf(String bare) {
+        Map<String, String> methods = new TreeMap<>();
         String[] lines = bare.split("\n");
         for (int i = 0; i < lines.length; i++) {
-            Matcher head = Pattern.compile("( {4}| {8})(?! )(?!for |if |while |switch )[\\w\\[\\] ]+\\([^)]*\\) \\{").matcher(lines[i]);
+            Matcher head = METHOD_HEAD.matcher(lines[i]);
             if (head.matches()) {
-                int end = i;
+                StringBuilder body = new StringBuilder();
+                int end = i + 1;
                 while (end < lines.length - 1 && !lines[end].equals(head.group(1) + "}")) {
+                    body.append(lines[end]).append('\n');
                     end++;
                 }
                 expect(end - i < MOST_LINES, 11, "a method of " + (end - i + 1) + " lines: " + lines[i].trim());
+                methods.merge(head.group(2), body.toString(), String::concat);
             }
+        }
+        return methods;
+    }
+
+    private static void checkMethods(String bare) {
+        Map<String, String> methods = methodsOf(bare);
+        for (Class<?> type : allClasses()) {
+            for (Method method : type.getDeclaredMethods()) {
+                expect(methods.containsKey(method.getName()), 11, method + " was not found in the source");
+            }
+        }
+        for (String name : methods.keySet()) {
+            checkDepth(name, methods, List.of(name));
+        }
+    }
+
+    /** Follows all calls from a method; the class does without recursion, so each way has an end. */
+    private static void checkDepth(String name, Map<String, String> methods, List<String> way) {
+        if (way.size() > MOST_DEEP) {
+            expect(false, 11, "calls that are too deep: " + String.join(", ", way));
+            return;
+        }
+        Matcher call = Pattern.compile("(\\w+)\\(").matcher(methods.get(name));
+        Set<String> called = new TreeSet<>();
+        while (call.find()) {
+            called.add(call.group(1));
+        }
+        called.retainAll(methods.keySet());
+        for (String next : called) {
+            expect(!way.contains(next), 8, "recursion: " + String.join(", ", way) + ", " + next);
+            List<String> further = new ArrayList<>(way);
+            further.add(next);
+            checkDepth(next, methods, further);
         }
     }
 }
